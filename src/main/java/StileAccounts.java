@@ -35,6 +35,7 @@ public final class StileAccounts {
     private final Sightings sightings;
     private final Distances distances;
     private final Leveller leveller;
+    private final Measurer measurer;
     private final Drunkard drunkard;
 
     public StileAccounts() {
@@ -47,6 +48,7 @@ public final class StileAccounts {
         sightings = new Sightings();
         distances = new Distances();
         leveller = new Leveller();
+        measurer = new Measurer();
         drunkard = new Drunkard();
         layFirstText();
     }
@@ -177,7 +179,7 @@ public final class StileAccounts {
         if (what < 0 || what > 1) {
             return BAD;
         }
-        int fewest = fewestMeasured();
+        int fewest = measurer.fewestStiles(now);
         return what == 0 ? fewest : Integer.bitCount(fewest);
     }
 
@@ -337,28 +339,6 @@ public final class StileAccounts {
             }
         }
         return NONE;
-    }
-
-    private int fewestMeasured() {
-        int all = (1 << plan.stiles) - 1;
-        int best = all;
-        for (int set = 0; set <= all; set++) {
-            // sets come in rising order, so only one of fewer stiles takes the place of the best
-            if (Integer.bitCount(set) < Integer.bitCount(best) && showsAllUneven(set)) {
-                best = set;
-            }
-        }
-        return best;
-    }
-
-    private boolean showsAllUneven(int set) {
-        for (int w = 0; w < plan.walkers; w++) {
-            int uneven = now.unevenStiles(w);
-            if (uneven != 0 && (uneven & set) == 0) {
-                return false;
-            }
-        }
-        return true;
     }
 
     private int bestNewPair() {
@@ -956,6 +936,36 @@ public final class StileAccounts {
                 }
             }
             return rest == 0;
+        }
+    }
+
+    /** The fewest stiles, as bits, by whose accounts all can be told who are not level. */
+    private static final class Measurer {
+        private final int[] uneven = new int[MOST_WALKERS];
+
+        int fewestStiles(State state) {
+            int walkers = state.plan.walkers;
+            for (int w = 0; w < walkers; w++) {
+                uneven[w] = state.unevenStiles(w);
+            }
+            int all = (1 << state.plan.stiles) - 1;
+            int best = all;
+            for (int set = 0; set <= all; set++) {
+                // sets come in rising order, so only one of fewer stiles takes the place of the best
+                if (Integer.bitCount(set) < Integer.bitCount(best) && tellsAll(set, walkers)) {
+                    best = set;
+                }
+            }
+            return best;
+        }
+
+        private boolean tellsAll(int set, int walkers) {
+            for (int w = 0; w < walkers; w++) {
+                if (uneven[w] != 0 && (uneven[w] & set) == 0) {
+                    return false;
+                }
+            }
+            return true;
         }
     }
 

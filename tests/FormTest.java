@@ -1,0 +1,126 @@
+import com.sun.management.ThreadMXBean;
+import java.io.IOException;
+import java.lang.management.ManagementFactory;
+import java.lang.reflect.Constructor;
+import java.lang.reflect.Field;
+import java.lang.reflect.Method;
+import java.lang.reflect.Modifier;
+import java.nio.file.Files;
+import java.nio.file.Path;
+import java.util.Set;
+import java.util.TreeSet;
+
+/** The form of the class: its face, the words that it does without, the room that it takes. */
+public final class FormTest {
+    private static final Set<String> FACE = Set.of("write 1", "wipe 0", "fault 0", "lay 0", "stile 2", "walker 2",
+        "account 2", "tread 2", "replace 1", "sand 1", "undo 0", "way 3", "even 1", "measure 1", "fresh 1", "lasts 2",
+        "richest 0", "see 2", "forget 0", "whose 1", "often 3", "drunk 5", "year 3", "keep 0", "back 0", "count 1");
+    private static final Set<String> CONSTANTS = Set.of("BAD", "NO", "FULL", "NONE");
+    private static final String[] UNWANTED = {"->", "::", "import ", "throw", "catch", "finally", "instanceof",
+        "synchronized", "assert", "static {", "Exact(", "String.format", "System.out", "Random", "currentTime", "Exception"};
+    private static final int ALL_CALLS = 512;
+
+    public static void main(String[] args) throws IOException {
+        faceIsTheDocuments();
+        sourceKeepsToTheLanguage();
+        callsMakeNothing();
+        Due.end();
+    }
+
+    private static void faceIsTheDocuments() {
+        Class<?> c = StileAccounts.class;
+        Due.holds("public and final", Modifier.isPublic(c.getModifiers()) && Modifier.isFinal(c.getModifiers()));
+        Set<String> seen = new TreeSet<>();
+        Set<String> names = new TreeSet<>();
+        for (String one : FACE) {
+            names.add(one.split(" ")[0]);
+        }
+        for (Method m : c.getDeclaredMethods()) {
+            if (Modifier.isPrivate(m.getModifiers())) {
+                Due.holds("private " + m.getName() + " bears a public name", !names.contains(m.getName()));
+            } else {
+                Due.holds(m + " is public, of int", Modifier.isPublic(m.getModifiers()) && m.getReturnType() == int.class);
+                seen.add(m.getName() + " " + m.getParameterCount());
+            }
+        }
+        Due.holds("the methods are the document's: " + seen, seen.equals(FACE));
+        Set<String> constants = new TreeSet<>();
+        for (Field f : c.getDeclaredFields()) {
+            if (!Modifier.isPrivate(f.getModifiers())) {
+                constants.add(f.getName());
+            }
+            Due.holds(f + " is final if static", !Modifier.isStatic(f.getModifiers()) || Modifier.isFinal(f.getModifiers()));
+        }
+        Due.holds("the constants are the document's", constants.equals(CONSTANTS));
+        for (Constructor<?> one : c.getDeclaredConstructors()) {
+            Due.holds("one public constructor", Modifier.isPublic(one.getModifiers()) && one.getParameterCount() == 0);
+        }
+    }
+
+    private static void sourceKeepsToTheLanguage() throws IOException {
+        String source = Files.readString(Path.of("src/main/java/StileAccounts.java"));
+        for (String word : UNWANTED) {
+            Due.holds("the source does without " + word, !source.contains(word));
+        }
+        for (char letter : source.toCharArray()) {
+            if (letter > 126) {
+                Due.holds("only plain letters, not " + letter, false);
+            }
+        }
+    }
+
+    private static void callsMakeNothing() {
+        // the first object warms up what the machine itself makes by first calls
+        callAll(new StileAccounts());
+        StileAccounts x = new StileAccounts();
+        long before = allocated();
+        callAll(x);
+        long made = allocated() - before;
+        Due.holds(ALL_CALLS + " calls make " + made + " bytes", made < 4096);
+        before = allocated();
+        x = new StileAccounts();
+        made = allocated() - before;
+        // 512 new objects would have room in 7.3 million fields and elements
+        Due.holds("a new object takes " + made + " bytes", made < 40000 && x.count(9) == 0);
+    }
+
+    private static long allocated() {
+        return ((ThreadMXBean) ManagementFactory.getThreadMXBean()).getCurrentThreadAllocatedBytes();
+    }
+
+    private static void callAll(StileAccounts x) {
+        for (int i = 0; i < Fields.FIRST.length(); i++) {
+            x.write(Fields.FIRST.charAt(i));
+        }
+        for (int i = 0; i < 16; i++) {
+            int w = i % 4;
+            int s = i % 7;
+            x.lay();
+            x.keep();
+            x.tread(w, s);
+            x.tread(0, 0);
+            x.sand(s);
+            x.replace(6 - s);
+            x.undo();
+            x.way(w, i % 6, i % 2);
+            x.even(0);
+            x.measure(0);
+            x.fresh(1);
+            x.lasts(s, w);
+            x.richest();
+            x.see(s, i);
+            x.whose(s);
+            x.often(w, s, 12);
+            x.drunk(w, 1, 8, 3, 0);
+            x.year(i, 60, 0);
+            x.back();
+            x.stile(s, 4);
+            x.walker(w, 4);
+            x.account(w, s);
+            x.count(5);
+            x.fault();
+            x.forget();
+        }
+        x.wipe();
+    }
+}
