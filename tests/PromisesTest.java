@@ -36,6 +36,7 @@ public final class PromisesTest {
         promise11Sand();
         promise12Undo();
         promise12UndoRestoresAll();
+        promise12UndoOfTheLastOnes();
         promise13Way();
         promise14Even();
         promise14EvenByWhatWasReplaced();
@@ -52,6 +53,7 @@ public final class PromisesTest {
         promise25Keep();
         promise26Back();
         promise27Count();
+        promisesOfTheMost();
         Due.end();
     }
 
@@ -270,7 +272,9 @@ public final class PromisesTest {
         Due.is("fields without", without.count(0), 5);
         Fields.sands(without, 0, 7);
         Due.is("worn by 35 of 40", without.stile(0, 4), 0);
-        Fields.sands(without, 0, 1);
+        Fields.treads(without, 0, 0, 0, 0, 0);
+        Due.is("worn by 39 of 40", without.stile(0, 4), 0);
+        Fields.treads(without, 0, 0);
         Due.is("worn by 40 of 40", without.stile(0, 4), 1);
     }
 
@@ -550,6 +554,23 @@ public final class PromisesTest {
         Due.is("credit at first", x.count(6), 0);
     }
 
+    private static void promise12UndoOfTheLastOnes() {
+        StileAccounts x = Fields.laid("f8;" + "s2,0,1;".repeat(8) + "s1,7,0;w0,7,1;w1,0,2;w0,0,3;w3,0,4;");
+        Fields.treads(x, 3, 8, 8, 8);
+        Fields.treads(x, 2, 8);
+        x.replace(8);
+        Due.is("the last walker's account replaced", x.account(3, 8), 1000);
+        Due.is("undo", x.undo(), 4);
+        Due.is("the last walker's account again", x.account(3, 8), 999);
+        Due.is("the last but one's account again", x.account(2, 8), 999);
+        Due.is("the last stile's wear again", x.stile(8, 3), 24 + 6);
+        Due.is("undo", x.undo(), 3);
+        Due.is("the last but one's place again", x.walker(2, 1), 0);
+        Due.is("undo", x.undo(), 2);
+        Due.is("the last one's place again", x.walker(3, 1), 0);
+        Due.is("the last one's account of two treads", x.account(3, 8), 1000);
+    }
+
     private static String withoutUndone(StileAccounts x) {
         StringBuilder all = new StringBuilder();
         for (int w = 0; w < x.count(2); w++) {
@@ -596,6 +617,9 @@ public final class PromisesTest {
         StileAccounts row = Fields.laid("f8;s2,0,1;s2,1,2;s2,2,3;s2,3,4;s2,4,5;s2,5,6;s2,6,7;w0,7,1;");
         Due.is("the longest way", row.way(0, 0, 0), 7);
         Due.is("the first of the longest way", row.way(0, 0, 1), 6);
+        StileAccounts through = Fields.laid("f3;s2,1,0;s2,2,0;w0,1,1;");
+        Due.is("over field 0", through.way(0, 2, 0), 2);
+        Due.is("the first over field 0", through.way(0, 2, 1), 0);
         Due.is("f1", Fields.laid("f1;w0,0,1;").way(0, 0, 0), 0);
     }
 
@@ -728,6 +752,21 @@ public final class PromisesTest {
         StileAccounts eight = Fields.laid("f8;s0,6,7;w0,0,1;");
         Due.is("six alone and two together: which", eight.fresh(0), 6);
         Due.is("six alone and two together: by how much", eight.fresh(1), 19 + 18);
+        StileAccounts high = Fields.laid("f8;s2,0,1;s2,0,2;s2,0,3;s2,0,4;s2,0,5;s2,0,6;s2,7,1;w0,0,1;");
+        Due.is("a star with a tail: which", high.fresh(0), 7);
+        Due.is("a star with a tail: by how much", high.fresh(1), 6);
+        StileAccounts last = Fields.laid("f7;s2,0,1;s2,1,2;s2,2,3;s2,3,4;s2,4,0;s2,5,6;s2,5,4;w0,0,1;l10;");
+        Fields.sands(last, 6, 2);
+        Due.is("a ring and two behind a broken one: which", last.fresh(0), 5);
+        Due.is("a ring and two behind a broken one: by how much", last.fresh(1), 200 - (1 + 2 + 2 + 3 + 3) - (2 + 3 + 3 + 4 + 4));
+        StileAccounts only = Fields.laid("f8;s2,0,1;s2,0,2;s2,1,2;s2,3,4;s2,4,5;s2,3,5;s2,6,7;w0,0,1;l10;");
+        Due.is("three parts: which", only.fresh(0), 3);
+        StileAccounts stars = Fields.laid("f8;s2,3,0;s2,3,1;s2,3,2;s2,6,4;s2,6,5;s2,6,7;w0,0,1;");
+        Due.is("two stars: which", stars.fresh(0), 36);
+        Due.is("two stars: by how much", stars.fresh(1), 16 * 20 - 40);
+        StileAccounts few = Fields.laid("f4;s2,0,1;s2,0,2;s2,0,3;s2,1,2;s2,1,3;w0,0,1;");
+        Due.is("the last of all pairs: which", few.fresh(0), 23);
+        Due.is("the last of all pairs: by how much", few.fresh(1), 1);
         String before = Fields.standing(row);
         int[] bad = {-1, 2, MIN, MAX};
         for (int what : bad) {
@@ -779,6 +818,9 @@ public final class PromisesTest {
         Due.is("over a gate", x.richest(), 0);
         Fields.treads(x, 2, 0);
         Due.is("2 of a tall one", x.richest(), 2);
+        StileAccounts second = Fields.laid("f2;s2,0,1;w0,0,1;w0,0,1;");
+        Fields.treads(second, 1, 0);
+        Due.is("the last but one", second.richest(), 1);
         Fields.treads(x, 3, 0, 0);
         Due.is("3 of a sander", x.richest(), 3);
         x.replace(0);
@@ -906,6 +948,7 @@ public final class PromisesTest {
         drunkIs(x, new int[] {0, 2, 2, 3}, 49, 100);
         drunkIs(x, new int[] {0, 4, 8, 3}, 0, 1);
         drunkIs(x, new int[] {1, 4, 8, 3}, 1, 1);
+        drunkIs(x, new int[] {1, 4, 1, 3}, 1, 1);
         drunkIs(x, new int[] {1, 0, 8, 3}, 0, 1);
         Due.is("nothing is worn", x.count(5), 0);
         Due.is("nobody goes", x.count(3), 0);
@@ -966,7 +1009,7 @@ public final class PromisesTest {
 
     private static void promise24Year() {
         String[] texts = {Fields.FIRST, "f3;s0,0,1;s1,1,2;s0,2,0;w2,0,9;w1,1,9;l10;", "f2;s1,0,1;s0,0,1;w2,0,9;w0,0,1;w3,1,2;l12;",
-            "f2;s0,0,1;w0,0,9;w1,1,9;l10;", "f3;s0,0,1;w1,2,9;"};
+            "f2;s0,0,1;w0,0,9;w1,1,9;l10;", "f3;s0,0,1;w1,2,9;", "f3;s0,1,2;s1,0,1;w1,2,3;l10;"};
         int[] years = {0, 1, 77, 5000, 9999};
         for (String text : texts) {
             for (int z : years) {
@@ -1055,6 +1098,34 @@ public final class PromisesTest {
         Fields.write(x, "w0,0,1;");
         x.lay();
         Due.is("kept of another text", x.back(), NO);
+    }
+
+    /** 8 fields, 9 stiles, 4 walkers: the last of all rows is used. */
+    private static void promisesOfTheMost() {
+        StileAccounts x = Fields.laid(NINE_STILES + FOUR_WALKERS + "l10;");
+        Due.is("way", x.way(0, 7, 1), 7);
+        Due.is("way over the last", x.way(0, 2, 1), 8);
+        Due.is("farthest", x.way(1, 5, 0), 4);
+        Due.is("fresh", x.fresh(0), 15);
+        Due.is("by how much", x.fresh(1), 7);
+        Due.is("drunk at the last field", x.drunk(0, 7, 1, 0, 0), 0);
+        Due.is("drunk over the last stile", x.drunk(0, 2, 1, 0, 0), 1);
+        drunkIs(x, new int[] {3, 7, 8, 5}, 13, 256);
+        Due.is("year", x.year(9999, 60, 1), 4);
+        Due.is("year", x.year(9999, 60, 0), 48);
+        Fields.treads(x, 0, 8);
+        Fields.treads(x, 3, 3, 4, 5, 6, 7, 8);
+        Due.is("even", x.even(3), 6);
+        Due.is("measure", x.measure(0), 256);
+        Due.is("whose", x.whose(8), 15);
+        Due.is("lasts", x.lasts(8, 0), 0);
+        Due.is("broken", x.count(4), 1);
+        Due.is("worn", x.count(5), 9 * 4 + 10);
+        Due.is("richest", x.richest(), 0);
+        Due.is("account", x.account(3, 8), 1001);
+        Due.is("replace", x.replace(8), 10);
+        Due.is("undo", x.undo(), 7);
+        Due.is("account again", x.account(3, 8), 1001);
     }
 
     private static void promise27Count() {
