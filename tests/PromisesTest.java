@@ -1009,7 +1009,8 @@ public final class PromisesTest {
 
     private static void promise24Year() {
         String[] texts = {Fields.FIRST, "f3;s0,0,1;s1,1,2;s0,2,0;w2,0,9;w1,1,9;l10;", "f2;s1,0,1;s0,0,1;w2,0,9;w0,0,1;w3,1,2;l12;",
-            "f2;s0,0,1;w0,0,9;w1,1,9;l10;", "f3;s0,0,1;w1,2,9;", "f3;s0,1,2;s1,0,1;w1,2,3;l10;"};
+            "f2;s0,0,1;w0,0,9;w1,1,9;l10;", "f3;s0,0,1;w1,2,9;", "f3;s0,1,2;s1,0,1;w1,2,3;l10;",
+            "f3;" + "s0,0,1;".repeat(9) + "w0,2,3;w0,0,3;"};
         int[] years = {0, 1, 77, 5000, 9999};
         for (String text : texts) {
             for (int z : years) {
