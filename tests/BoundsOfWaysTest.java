@@ -152,6 +152,9 @@ public final class BoundsOfWaysTest {
         levelAlready();
         brokenOnesAsOthers();
         overOthersAndBack();
+        hisOwnOfNine();
+        roundsThatPart();
+        askedOnTheWay();
         thereIsNoEven();
         manyTreads();
         Bounds.onlyTells("even", Fields::lived, x -> x.even(0));
@@ -210,6 +213,45 @@ public final class BoundsOfWaysTest {
             far.replace(s);
         }
         Due.is("6 over, 2 round, 6 back", far.even(0), 14);
+    }
+
+    // "LEVEL, if all his ACCOUNTS are 0": his own alone, of nine STILES, for the first and for the fourth WALKER
+    private static void hisOwnOfNine() {
+        StileAccounts x = Fields.laid(NINE_STONES + "w0,0,1;w0,0,1;w0,0,1;w0,1,1;");
+        Fields.treads(x, 0, 7, 8);
+        Fields.treads(x, 1, 0);
+        Fields.treads(x, 2, 0, 1, 0);
+        Fields.treads(x, 3, 8, 7, 6, 5, 4, 3, 2, 1, 0);
+        int[] due = {2, 1, 3, 9};
+        for (int w = 0; w < 4; w++) {
+            Due.is("even of " + w, x.even(w), due[w]);
+        }
+    }
+
+    // "the fewest TREADS, one behind the other": rounds that part from one another at two FIELDS
+    private static void roundsThatPart() {
+        StileAccounts x = Fields.laid("f4;s2,0,1;s2,0,1;s2,0,2;s2,0,2;s2,1,3;s2,1,3;w0,0,1;");
+        Fields.treads(x, 0, 0, 4, 5, 1, 2, 3);
+        Due.is("three rounds", x.even(0), 6);
+        x.replace(0);
+        x.replace(1);
+        Due.is("two rounds, and over and back between", x.even(0), 6);
+        x.replace(2);
+        x.replace(3);
+        Due.is("the far round, and over and back to it", x.even(0), 4);
+    }
+
+    // "from where he is": now, whatever was asked before, from the first FIELD to the eighth and back
+    private static void askedOnTheWay() {
+        StileAccounts x = Fields.laid(ROW + "w0,0,1;");
+        for (int i = 1; i <= 7; i++) {
+            Fields.treads(x, 0, i - 1);
+            Due.is("even in field " + i, x.even(0), i);
+        }
+        for (int i = 6; i >= 0; i--) {
+            Fields.treads(x, 0, i);
+            Due.is("even back in field " + i, x.even(0), i);
+        }
     }
 
     // "none (there are none such)"

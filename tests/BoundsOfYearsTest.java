@@ -295,6 +295,14 @@ public final class BoundsOfYearsTest {
         Fields.sands(x, 0, 2);
         yearIs(x, 0, 1, 0, 1);
         yearIs(x, 5000, 60, 0, 1);
+        StileAccounts nine = Fields.laid("f3;" + "s0,0,1;".repeat(9) + "w0,2,9;l10;");
+        Fields.sands(nine, 8, 2);
+        yearIs(nine, 0, 1, 0, 1);
+        yearIs(nine, 9999, 60, 0, 1);
+        nine.wipe();
+        Fields.write(nine, "f3;s0,2,1;w0,0,9;");
+        nine.lay();
+        yearIs(nine, 0, 60, 0, 0);
     }
 
     // "of n (1 to 60) TREADS": two break it, the third replaces it, whatever is drawn of one WALKER and one STILE

@@ -23,6 +23,8 @@ public final class FormTest {
     public static void main(String[] args) throws IOException {
         faceIsTheDocuments();
         sourceKeepsToTheLanguage();
+        classesKeepToTheBounds();
+        methodsAreShort();
         callsMakeNothing();
         Due.end();
     }
@@ -67,6 +69,50 @@ public final class FormTest {
                 Due.holds("only plain letters, not " + letter, false);
             }
         }
+    }
+
+    // LANGUAGE.md, rules 1, 2, 5 and 11: twelve classes, twenty fields beside constants, seven parameters
+    private static void classesKeepToTheBounds() {
+        Class<?>[] inside = StileAccounts.class.getDeclaredClasses();
+        Due.holds(inside.length + " classes inside", inside.length + 1 <= 12);
+        keepsToTheBounds(StileAccounts.class);
+        for (Class<?> c : inside) {
+            Due.holds(c + " is static, not public", Modifier.isStatic(c.getModifiers()) && !Modifier.isPublic(c.getModifiers()));
+            keepsToTheBounds(c);
+        }
+    }
+
+    private static void keepsToTheBounds(Class<?> c) {
+        int fields = 0;
+        for (Field f : c.getDeclaredFields()) {
+            boolean still = Modifier.isStatic(f.getModifiers());
+            Due.holds(f + " is final if static", !still || Modifier.isFinal(f.getModifiers()));
+            fields += still ? 0 : 1;
+        }
+        Due.holds(fields + " fields in " + c, fields <= 20);
+        for (Method m : c.getDeclaredMethods()) {
+            Due.holds(m + " has seven parameters at most", m.getParameterCount() <= 7);
+        }
+    }
+
+    // LANGUAGE.md, rule 11: some sixty lines
+    private static void methodsAreShort() throws IOException {
+        int start = -1;
+        String end = "";
+        int lines = 0;
+        for (String line : Files.readAllLines(Path.of("src/main/java/StileAccounts.java"))) {
+            lines++;
+            String indent = line.substring(0, line.length() - line.stripLeading().length());
+            boolean head = line.endsWith(") {") && (indent.length() == 4 || indent.length() == 8 && !line.matches(" *(if|for|while|switch) .*"));
+            if (start < 0 && head) {
+                start = lines;
+                end = indent + "}";
+            } else if (start >= 0 && line.equals(end)) {
+                Due.holds("the method from line " + start + " to " + lines + " is short", lines - start < 60);
+                start = -1;
+            }
+        }
+        Due.holds("every method has an end", start < 0);
     }
 
     private static void callsMakeNothing() {
