@@ -291,7 +291,7 @@ public final class BoundsOfTextTest {
         faultIs("w3,4,009;", 0);
     }
 
-    // "figures": 0 to 9, not the letters beside them (/ and :), as the first and as the second
+    // "figures": 0 to 9, not the letters beside them (/ and :), as the first and as the second; no sign ahead of them
     private static void figuresAreNoOtherLetters() {
         for (int letter = 32; letter <= 126; letter++) {
             boolean figure = letter >= '0' && letter <= '9';
@@ -299,6 +299,9 @@ public final class BoundsOfTextTest {
             faultIs("l" + (char) letter + "1;", faultIf(!figure || letter == '0', 0));
             faultIs("f0" + (char) letter + ";", faultIf(letter < '1' || letter > '8', 0));
             faultIs("w0,0," + (char) letter + ";", faultIf(letter < '1' || letter > '9', 0));
+            faultIs("l" + (char) letter + "40;", 0);
+            faultIs("s0," + (char) letter + "1,2;", faultIf(letter != '0', 0));
+            faultIs("w0,0," + (char) letter + "1;", faultIf(letter != '0', 0));
         }
     }
 

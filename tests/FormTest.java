@@ -1,4 +1,5 @@
 import com.sun.management.ThreadMXBean;
+import java.io.DataInputStream;
 import java.io.IOException;
 import java.lang.management.ManagementFactory;
 import java.lang.reflect.Constructor;
@@ -18,6 +19,9 @@ public final class FormTest {
     private static final Set<String> CONSTANTS = Set.of("BAD", "NO", "FULL", "NONE");
     private static final String[] UNWANTED = {"->", "::", "import ", "throw", "catch", "finally", "instanceof",
         "synchronized", "assert", "static {", "Exact(", "String.format", "System.out", "Random", "currentTime", "Exception"};
+    private static final Set<String> LIBRARY = Set.of("java/lang/Object.<init>()V", "java/lang/String.length()I",
+        "java/lang/String.charAt(I)C", "java/lang/Math.min(II)I", "java/lang/Math.max(II)I", "java/lang/Math.abs(I)I",
+        "java/lang/Integer.bitCount(I)I", "java/lang/System.arraycopy(Ljava/lang/Object;ILjava/lang/Object;II)V");
     private static final int ALL_CALLS = 512;
 
     public static void main(String[] args) throws IOException {
@@ -25,6 +29,7 @@ public final class FormTest {
         sourceKeepsToTheLanguage();
         classesKeepToTheBounds();
         methodsAreShort();
+        onlyTheLibraryIsUsed();
         callsMakeNothing();
         Due.end();
     }
@@ -113,6 +118,49 @@ public final class FormTest {
             }
         }
         Due.holds("every method has an end", start < 0);
+    }
+
+    // LANGUAGE.md, rules 2, 4, 10 and 13: what the class files name beside the classes of the file itself
+    private static void onlyTheLibraryIsUsed() throws IOException {
+        usesOnlyTheLibrary(StileAccounts.class);
+        for (Class<?> c : StileAccounts.class.getDeclaredClasses()) {
+            usesOnlyTheLibrary(c);
+        }
+    }
+
+    private static void usesOnlyTheLibrary(Class<?> c) throws IOException {
+        try (DataInputStream in = new DataInputStream(c.getResourceAsStream(c.getName() + ".class"))) {
+            in.skipBytes(8);
+            int size = in.readUnsignedShort();
+            String[] texts = new String[size];
+            int[][] pairs = new int[size][];
+            boolean[] members = new boolean[size];
+            for (int i = 1; i < size; i++) {
+                int tag = in.readUnsignedByte();
+                members[i] = tag >= 9 && tag <= 11;
+                Due.holds(c + " calls nothing that the machine makes as it runs", tag < 15);
+                switch (tag) {
+                    case 1 -> texts[i] = in.readUTF();
+                    case 7, 8 -> pairs[i] = new int[] {in.readUnsignedShort()};
+                    case 5, 6 -> {
+                        in.readLong();
+                        i++;
+                    }
+                    default -> pairs[i] = new int[] {in.readUnsignedShort(), in.readUnsignedShort()};
+                }
+            }
+            for (int i = 1; i < size; i++) {
+                if (members[i]) {
+                    int[] named = pairs[pairs[i][1]];
+                    isOfTheLibrary(texts[pairs[pairs[i][0]][0]], texts[named[0]] + texts[named[1]]);
+                }
+            }
+        }
+    }
+
+    private static void isOfTheLibrary(String owner, String member) {
+        boolean own = owner.equals("StileAccounts") || owner.startsWith("StileAccounts$");
+        Due.holds(owner + "." + member + " may be used", own || LIBRARY.contains(owner + "." + member));
     }
 
     private static void callsMakeNothing() {
