@@ -19,6 +19,7 @@ public final class FormTest {
     private static final Set<String> CONSTANTS = Set.of("BAD", "NO", "FULL", "NONE");
     private static final String[] UNWANTED = {"->", "::", "import ", "throw", "catch", "finally", "instanceof",
         "synchronized", "assert", "static {", "Exact(", "String.format", "System.out", "Random", "currentTime", "Exception"};
+    // what the class needs of the library; LANGUAGE.md, rule 4, leaves some more
     private static final Set<String> LIBRARY = Set.of("java/lang/Object.<init>()V", "java/lang/String.length()I",
         "java/lang/String.charAt(I)C", "java/lang/Math.min(II)I", "java/lang/Math.max(II)I", "java/lang/Math.abs(I)I",
         "java/lang/Integer.bitCount(I)I", "java/lang/System.arraycopy(Ljava/lang/Object;ILjava/lang/Object;II)V");
@@ -30,6 +31,7 @@ public final class FormTest {
         classesKeepToTheBounds();
         methodsAreShort();
         onlyTheLibraryIsUsed();
+        readmeTellsAll();
         callsMakeNothing();
         Due.end();
     }
@@ -74,6 +76,17 @@ public final class FormTest {
                 Due.holds("only plain letters, not " + letter, false);
             }
         }
+    }
+
+    private static void readmeTellsAll() throws IOException {
+        String readme = Files.readString(Path.of("README.md"));
+        for (String one : FACE) {
+            Due.holds("README.md tells of " + one, readme.contains("| `" + one.split(" ")[0] + "("));
+        }
+        for (String one : CONSTANTS) {
+            Due.holds("README.md tells what " + one + " means", readme.contains("| `" + one + "` | -"));
+        }
+        Due.holds("README.md tells how the tests are run", readme.contains(".ci/run"));
     }
 
     // LANGUAGE.md, rules 1, 2, 5 and 11: twelve classes, twenty fields beside constants, seven parameters
@@ -141,7 +154,8 @@ public final class FormTest {
                 Due.holds(c + " calls nothing that the machine makes as it runs", tag < 15);
                 switch (tag) {
                     case 1 -> texts[i] = in.readUTF();
-                    case 7, 8 -> pairs[i] = new int[] {in.readUnsignedShort()};
+                    case 7, 8, 16, 19, 20 -> pairs[i] = new int[] {in.readUnsignedShort()};
+                    case 15 -> in.skipBytes(3);
                     case 5, 6 -> {
                         in.readLong();
                         i++;

@@ -6,6 +6,8 @@
 public final class SentencesTest {
     private static final int NONE = StileAccounts.NONE;
     private static final int BAD = StileAccounts.BAD;
+    private static final int NO = StileAccounts.NO;
+    private static final int FULL = StileAccounts.FULL;
 
     public static void main(String[] args) {
         fewestOfAllThatJoin();
@@ -18,6 +20,8 @@ public final class SentencesTest {
         drunkOfAnyKind();
         drunkFromWhereHeIs();
         badAheadOfNone();
+        boundsByThemselves();
+        readmeAnswers();
         Due.end();
     }
 
@@ -166,5 +170,42 @@ public final class SentencesTest {
         StileAccounts none = Fields.least();
         Due.is("new of what, where there is none", none.fresh(2), BAD);
         Due.is("new, where there is none", none.fresh(1), NONE);
+    }
+
+    // "2 at most", "6 at most", "the last 8 can be": each by itself, however many there are of the others
+    private static void boundsByThemselves() {
+        for (int undone = 0; undone <= 8; undone++) {
+            for (int seen = 0; seen <= 6; seen++) {
+                StileAccounts x = new StileAccounts();
+                Fields.sands(x, 0, undone);
+                for (int i = 1; i <= seen; i++) {
+                    Due.is("seen, " + undone + " undone", x.see(0, 3), i);
+                }
+                Due.is("kept, " + undone + " undone, " + seen + " seen", x.keep(), 1);
+                Due.is("kept, " + undone + " undone, " + seen + " seen", x.keep(), 2);
+                Due.is("not kept, " + undone + " undone, " + seen + " seen", x.keep(), FULL);
+                Due.is("seen, " + undone + " undone, 2 kept", x.see(0, 3), seen < 6 ? seen + 1 : FULL);
+                for (int left = undone - 1; left >= 0; left--) {
+                    Due.is("undone, " + seen + " seen, 2 kept", x.undo(), left);
+                }
+                Due.is("not undone, " + seen + " seen, 2 kept", x.undo(), NO);
+            }
+        }
+    }
+
+    // README.md, "Use"
+    private static void readmeAnswers() {
+        StileAccounts x = new StileAccounts();
+        Due.is("tread", x.tread(0, 0), 1);
+        Due.is("worn by", x.stile(0, 3), 3);
+        Due.is("account", x.account(0, 0), 1001);
+        Due.is("even", x.even(0), 1);
+        Due.is("not at his field", x.tread(0, 3), NO);
+        Due.is("no walker 9", x.tread(9, 0), BAD);
+        Due.is("undo", x.undo(), 0);
+        x.wipe();
+        Fields.write(x, "f3;s0,0,1;s1,1,2;w0,0,5;l20;");
+        Due.is("no fault", x.fault(), NONE);
+        Due.is("laid", x.lay(), 3);
     }
 }
